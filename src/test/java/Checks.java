@@ -1,13 +1,25 @@
 /** Counts answers that are due and answers that are not. */
 final class Checks {
+    private static final long MOST_MILLISECONDS = 120_000;
+
     private static int right;
     private static int wrong;
+
+    static {
+        Thread watch = new Thread(Checks::stopLate);
+        watch.setDaemon(true);
+        watch.start();
+    }
 
     private Checks() {
     }
 
     interface Call {
         void run();
+    }
+
+    interface Question {
+        long ask();
     }
 
     static void same(String what, long got, long due) {
@@ -35,6 +47,26 @@ final class Checks {
             got = e.getClass().getName();
         }
         judge(got.equals(due.getName()), what + " throws", got, due.getName());
+    }
+
+    /** The answer to a question, or the name of the exception that is thrown instead. */
+    static String answer(Question question) {
+        try {
+            return String.valueOf(question.ask());
+        } catch (RuntimeException e) {
+            return e.getClass().getSimpleName();
+        }
+    }
+
+    /** A call that never ends has to fail the test, not to hold it up. */
+    private static void stopLate() {
+        try {
+            Thread.sleep(MOST_MILLISECONDS);
+        } catch (InterruptedException e) {
+            return;
+        }
+        System.out.println("a call does not end");
+        Runtime.getRuntime().halt(1);
     }
 
     private static void judge(boolean isRight, String what, String got, String due) {
